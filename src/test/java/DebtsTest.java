@@ -11,6 +11,7 @@ public final class DebtsTest {
         promise6LowestBehindTheFirstDebt();
         promise6RingOfFour();
         promise6OnlyRingsOfThePlayer();
+        debtsOfOneCoin();
         promise6Errors();
         promise9Owes();
         promise12Chain();
@@ -142,6 +143,46 @@ public final class DebtsTest {
         Check.due("clear(3)", x.clear(3), 0);
         debtsAre("a ring of others stays", x, coins);
         Check.due("clear(2)", x.clear(2), 12);
+    }
+
+    /** A and B owe one another one coin, each for the other's bridge; both have nothing, and A is next. */
+    private static DiceRoads oneCoinEach() {
+        DiceRoads x = Table.with(15, 15);
+        x.set(DiceRoads.WAGE, 0);
+        x.set(DiceRoads.TOLL, 1);
+        Table.turn(x, 2, 3, 6);
+        Table.turn(x, 5, 5);
+        Table.turn(x, 2, 3);
+        Table.turn(x, 2, 3, 6);
+        Table.turn(x, 2, 3);
+        Table.turn(x, 2, 3);
+        Table.turn(x, 2, 3);
+        Table.turn(x, 2, 3);
+        return x;
+    }
+
+    private static void debtsOfOneCoin() {
+        DiceRoads x = oneCoinEach();
+        Check.due("one coin: owes(0, 1, 0)", x.owes(0, 1, 0), 1);
+        Check.due("one coin: owes(0, 1, 1)", x.owes(0, 1, 1), 2);
+        Check.due("one coin: owes(1, 0, 0)", x.owes(1, 0, 0), 1);
+        Check.due("one coin: owes(1, 0, 1)", x.owes(1, 0, 1), 1);
+        Check.due("one coin: chain(0, 0)", x.chain(0, 0), 2);
+        x.save(0);
+        Check.due("one coin: clear(0)", x.clear(0), 1);
+        Check.due("one coin: no debt is left", x.count(3), 0);
+        x.restore(0);
+        x.set(DiceRoads.WAGE, 1);
+        Table.turn(x, 5, 5);
+        Table.turn(x, 2, 3);
+        Table.turn(x, 5, 5);
+        Table.turn(x, 5, 5);
+        Check.due("one coin is paid", Table.turn(x, 5, 5), 1);
+        Check.due("one coin: owes nothing", x.owes(0, 1, 1), -6);
+        x.restore(0);
+        x.set(DiceRoads.DUE, 2);
+        Table.turn(x, 5, 5);
+        Check.due("one coin costs a square", x.ofSquare(5, 1), 1);
     }
 
     private static void promise6Errors() {

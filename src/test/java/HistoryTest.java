@@ -52,29 +52,41 @@ public final class HistoryTest {
 
     private static void promise20AllChangesAreUndone() {
         DiceRoads x = played();
-        String before = Table.all(x);
+        String before = movedOn(x);
         x.set(DiceRoads.PRICE, 99);
         undoTo(x, "set", before);
+        before = movedOn(x);
         x.player(77);
         undoTo(x, "player", before);
+        before = movedOn(x);
         x.seed(123);
         undoTo(x, "seed", before);
+        before = movedOn(x);
         x.go(50);
         undoTo(x, "go", before);
+        before = movedOn(x);
         x.clear(0);
         undoTo(x, "clear", before);
+        before = movedOn(x);
         Table.write(x, "p1;t80;x5");
         x.carryOut();
         undoTo(x, "carryOut", before);
         x.save(1);
-        x.go(20);
+        before = movedOn(x);
         x.restore(1);
-        x.undo();
         undoTo(x, "restore", before);
     }
 
+    /** Does changes until the history knows nothing older, and returns what the board is like then. */
+    private static String movedOn(DiceRoads x) {
+        for (int i = 0; i < 7; i++) {
+            x.go(1);
+        }
+        return Table.all(x);
+    }
+
     private static void undoTo(DiceRoads x, String change, String before) {
-        x.undo();
+        Check.due("undo " + change, x.undo(), 5);
         Check.due("undone " + change, Table.all(x), before);
     }
 

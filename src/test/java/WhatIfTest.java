@@ -116,37 +116,45 @@ public final class WhatIfTest {
     }
 
     private static void promise15BestSeed() {
-        for (int turns = 1; turns <= 60; turns += 7) {
+        boolean lastIsBest = false;
+        boolean nextIsBetter = false;
+        for (int turns = 1; turns <= 60; turns++) {
             for (int player = 0; player < 3; player++) {
-                Check.due("bestSeed(" + player + ", " + turns + ")", crowded().bestSeed(player, turns),
-                        bestByPlaying(player, turns));
+                int played = turns % 2 == 0 ? 28 : 34;
+                int best = bestByPlaying(played, player, turns);
+                Check.due("bestSeed(" + player + ", " + turns + ")", crowded(played).bestSeed(player, turns), best);
+                lastIsBest |= best == 49;
+                int next = wealthBehind(played, 50, player, turns);
+                nextIsBetter |= next > wealthBehind(played, best, player, turns);
             }
         }
+        Check.that("the seed 49 is tried", lastIsBest);
+        Check.that("the seed 50 would be better once", nextIsBetter);
     }
 
-    private static DiceRoads crowded() {
+    /** A board with tolls and debts. */
+    private static DiceRoads crowded(int played) {
         DiceRoads x = Table.with(60, 10, 5);
         x.set(DiceRoads.TOLL, 30);
-        x.go(40);
+        x.go(played);
         return x;
     }
 
-    private static int bestByPlaying(int player, int turns) {
-        DiceRoads x = crowded();
-        int best = -1;
-        int most = 0;
-        for (int seed = 0; seed < 50; seed++) {
-            x.seed(seed);
-            x.go(turns);
-            int wealth = x.of(player, 0) + x.of(player, 4) - x.of(player, 3);
-            if (best < 0 || wealth > most) {
+    private static int bestByPlaying(int played, int player, int turns) {
+        int best = 0;
+        for (int seed = 1; seed < 50; seed++) {
+            if (wealthBehind(played, seed, player, turns) > wealthBehind(played, best, player, turns)) {
                 best = seed;
-                most = wealth;
             }
-            x.undo();
-            x.undo();
         }
         return best;
+    }
+
+    private static int wealthBehind(int played, int seed, int player, int turns) {
+        DiceRoads x = crowded(played);
+        x.seed(seed);
+        x.go(turns);
+        return x.of(player, 0) + x.of(player, 4) - x.of(player, 3);
     }
 
     private static void promise15LeastOfSeveral() {
@@ -196,7 +204,7 @@ public final class WhatIfTest {
     }
 
     private static void nothingChanges() {
-        DiceRoads x = crowded();
+        DiceRoads x = crowded(40);
         String before = Table.all(x);
         int changes = x.count(16);
         x.emptyIn(0);
