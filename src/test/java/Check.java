@@ -26,6 +26,15 @@ final class Check {
         }
     }
 
+    /** Tests one sentence of the document; if it does not hold, that is told with the promise, or section, that says it. */
+    static void sentence(String promise, String sentence, Runnable test) {
+        int before = wrong;
+        test.run();
+        if (wrong != before) {
+            System.out.println("so it does not hold that (" + promise + ") " + sentence);
+        }
+    }
+
     /** Ends the test, with exit code 1 if an answer was wrong. */
     static void end() {
         if (wrong != 0) {

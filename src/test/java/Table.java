@@ -1,3 +1,5 @@
+import java.util.function.Supplier;
+
 /** Ways of playing on a board by dice that a test chooses, and of reading it. */
 final class Table {
     private Table() {
@@ -16,6 +18,61 @@ final class Table {
     static int turn(DiceRoads x, int... dice) {
         x.seed(seedFor(dice));
         return x.go(1);
+    }
+
+    /** The next player goes to the next inn, where it has nothing to claim or to pay. */
+    static void rest(DiceRoads x) {
+        int way = 10 - x.of(x.count(2), 1) % 10;
+        way = way < 2 ? way + 10 : way;
+        turn(x, way / 2, way - way / 2);
+    }
+
+    /** All players in turn go to their next inns, for so many rounds. */
+    static void restAll(DiceRoads x, int rounds) {
+        int turns = rounds * x.count(1);
+        for (int i = 0; i < turns; i++) {
+            rest(x);
+        }
+    }
+
+    /**
+     * The player comes to the square, and throws this third die there, or whichever comes if it is 0; before that it
+     * and all others go from inn to inn. Returns what go() does.
+     */
+    static int send(DiceRoads x, int player, int square, int thirdDie) {
+        for (int i = 0; i < 40; i++) {
+            int way = (square - x.of(player, 1) + 20) % 20;
+            if (x.count(2) == player && way >= 2 && way <= 12) {
+                int die = way / 2;
+                return thirdDie == 0 ? turn(x, die, way - die) : turn(x, die, way - die, thirdDie);
+            }
+            rest(x);
+        }
+        throw new IllegalStateException("player " + player + " does not come to " + square);
+    }
+
+    /** Does so many turns, however many they are. */
+    static void advance(DiceRoads x, int turns) {
+        for (int left = turns; left > 0; left -= 99) {
+            x.go(Math.min(left, 99));
+        }
+    }
+
+    /** Behind how many turns the purse of the player is empty for the first time, -6 if it is not within the most. */
+    static int firstEmpty(Supplier<DiceRoads> board, int player, int most) {
+        DiceRoads x = board.get();
+        for (int turns = 0; turns <= most; turns++) {
+            // a new board from time to time, since one is good for 512 calls only
+            if (turns % 200 == 0) {
+                x = board.get();
+                advance(x, turns);
+            }
+            if (x.of(player, 0) == 0) {
+                return turns;
+            }
+            x.go(1);
+        }
+        return -6;
     }
 
     /** The least seed behind which these dice are thrown. */
@@ -60,8 +117,10 @@ final class Table {
     /** The text of the board. */
     static String text(DiceRoads x) {
         StringBuilder text = new StringBuilder();
-        for (int place = 0; x.sign(place) >= 0; place++) {
-            text.append((char) x.sign(place));
+        int sign = x.sign(0);
+        for (int place = 1; sign >= 0; place++) {
+            text.append((char) sign);
+            sign = x.sign(place);
         }
         return text.toString();
     }
@@ -78,7 +137,9 @@ final class Table {
                 all.append(' ').append(x.of(player, what));
             }
             for (int other = 0; other < players; other++) {
-                all.append(' ').append(x.owes(player, other, 0)).append(' ').append(x.owes(player, other, 1));
+                if (other != player) {
+                    all.append(' ').append(x.owes(player, other, 0)).append(' ').append(x.owes(player, other, 1));
+                }
             }
         }
         return all.toString();

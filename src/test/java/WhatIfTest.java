@@ -37,9 +37,11 @@ public final class WhatIfTest {
         DiceRoads x = Table.with(500);
         x.set(DiceRoads.CLAIM, 7);
         Check.due("never", x.emptyIn(0), -6);
-        Check.due("as the turns say", farAway().emptyIn(0), firstEmpty(farAway(), 400));
-        Check.due("exactly 400", turnsFromEmpty(400).emptyIn(1), 400);
-        Check.due("401 is too far", turnsFromEmpty(401).emptyIn(1), -6);
+        Check.due("as the turns say", farAway().emptyIn(0), Table.firstEmpty(WhatIfTest::farAway, 0, 400));
+        int first = Table.firstEmpty(WhatIfTest::longLasting, 1, 700);
+        Check.that("the purse lasts for more than 401 turns", first > 401);
+        Check.due("exactly 400", longLasting(first - 400).emptyIn(1), 400);
+        Check.due("401 is too far", longLasting(first - 401).emptyIn(1), -6);
     }
 
     private static DiceRoads farAway() {
@@ -48,38 +50,18 @@ public final class WhatIfTest {
         return x;
     }
 
-    private static int firstEmpty(DiceRoads x, int most) {
-        for (int turns = 0; turns <= most; turns++) {
-            if (x.of(0, 0) == 0) {
-                return turns;
-            }
-            x.go(1);
-        }
-        return -6;
+    /** A board on which player 1 loses its purse slowly. */
+    private static DiceRoads longLasting() {
+        DiceRoads x = Table.with(9999, 700);
+        x.set(DiceRoads.WAGE, 0);
+        x.set(DiceRoads.TOLL, 1);
+        return x;
     }
 
-    /** A board on which the purse of player 1 is empty for the first time behind so many turns. */
-    private static DiceRoads turnsFromEmpty(int turns) {
-        for (int purse = 1; purse < 2000; purse++) {
-            DiceRoads x = Table.with(9999, purse);
-            x.set(DiceRoads.WAGE, 0);
-            x.set(DiceRoads.TOLL, 1);
-            int played = 0;
-            while (x.of(1, 0) > 0 && played < 700) {
-                x.go(1);
-                played++;
-            }
-            if (x.of(1, 0) == 0 && played >= turns) {
-                DiceRoads y = Table.with(9999, purse);
-                y.set(DiceRoads.WAGE, 0);
-                y.set(DiceRoads.TOLL, 1);
-                for (int i = played; i > turns; i--) {
-                    y.go(1);
-                }
-                return y;
-            }
-        }
-        throw new IllegalStateException("no purse lasts that long");
+    private static DiceRoads longLasting(int played) {
+        DiceRoads x = longLasting();
+        Table.advance(x, played);
+        return x;
     }
 
     private static void promise13Errors() {
