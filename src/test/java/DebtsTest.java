@@ -1,8 +1,5 @@
 /** Promises 6, 9 and 12: clear, owes, chain. */
 public final class DebtsTest {
-    /** Player p owns the road ROADS[p] and nothing else. */
-    private static final int[] ROADS = {2, 3, 4, 6};
-
     public static void main(String[] args) {
         promise6WithoutARing();
         promise6RingOfTwo();
@@ -19,69 +16,9 @@ public final class DebtsTest {
         Check.end();
     }
 
-    /** A board on which the debtor of each row owes the creditor of each column that many coins (an even number). */
-    private static DiceRoads owing(int[][] coins) {
-        DiceRoads x = Table.with(15, 15, 15, 15);
-        x.set(DiceRoads.WAGE, 0);
-        x.set(DiceRoads.DUE, 20);
-        for (int player = 0; player < 4; player++) {
-            Table.turn(x, 1, ROADS[player] - 1, 6);
-        }
-        goOnToTheInn(x);
-        // now nobody has a coin or gets one, so that nothing is claimed or paid
-        for (int round = 1; round < 4; round++) {
-            for (int player = 0; player < 4; player++) {
-                Table.turn(x, 5, 5);
-            }
-            for (int player = 0; player < 4; player++) {
-                int creditor = (player + round) % 4;
-                int debt = coins[player][creditor];
-                if (debt > 0) {
-                    x.set(DiceRoads.TOLL, debt / 2);
-                }
-                Table.turn(x, 1, ROADS[debt > 0 ? creditor : player] - 1);
-            }
-            goOnToTheInn(x);
-        }
-        debtsAre("before", x, coins);
-        return x;
-    }
-
-    private static void goOnToTheInn(DiceRoads x) {
-        for (int player = 0; player < 4; player++) {
-            int way = 10 - x.of(player, 1);
-            Table.turn(x, way / 2, way - way / 2);
-        }
-    }
-
-    private static void debtsAre(String when, DiceRoads x, int[][] coins) {
-        int debts = 0;
-        int all = 0;
-        for (int debtor = 0; debtor < 4; debtor++) {
-            int owed = 0;
-            int got = 0;
-            for (int other = 0; other < 4; other++) {
-                if (debtor != other) {
-                    Check.due(when + ": owes(" + debtor + ", " + other + ", 0)", x.owes(debtor, other, 0),
-                            coins[debtor][other]);
-                    Check.that(when + ": age of " + debtor + " to " + other,
-                            x.owes(debtor, other, 1) == -6 == (coins[debtor][other] == 0));
-                }
-                owed += coins[debtor][other];
-                got += coins[other][debtor];
-                debts += coins[debtor][other] > 0 ? 1 : 0;
-            }
-            all += owed;
-            Check.due(when + ": of(" + debtor + ", 3)", x.of(debtor, 3), owed);
-            Check.due(when + ": of(" + debtor + ", 4)", x.of(debtor, 4), got);
-        }
-        Check.due(when + ": count(3)", x.count(3), debts);
-        Check.due(when + ": count(5)", x.count(5), all);
-    }
-
     private static void promise6WithoutARing() {
         int[][] coins = {{0, 10, 4, 0}, {0, 0, 8, 2}, {0, 0, 0, 6}, {0, 0, 0, 0}};
-        DiceRoads x = owing(coins);
+        DiceRoads x = Debtors.owing(coins);
         String before = Table.all(x);
         for (int player = 0; player < 4; player++) {
             Check.due("no ring: clear(" + player + ")", x.clear(player), 0);
@@ -90,58 +27,58 @@ public final class DebtsTest {
     }
 
     private static void promise6RingOfTwo() {
-        DiceRoads x = owing(new int[][] {{0, 10, 0, 0}, {4, 0, 0, 0}, {0, 0, 0, 0}, {0, 0, 0, 0}});
+        DiceRoads x = Debtors.owing(new int[][] {{0, 10, 0, 0}, {4, 0, 0, 0}, {0, 0, 0, 0}, {0, 0, 0, 0}});
         int age = x.owes(0, 1, 1);
         x.save(0);
         Check.due("clear(0)", x.clear(0), 4);
-        debtsAre("ring of two", x, new int[][] {{0, 6, 0, 0}, {0, 0, 0, 0}, {0, 0, 0, 0}, {0, 0, 0, 0}});
+        Debtors.debtsAre("ring of two", x, new int[][] {{0, 6, 0, 0}, {0, 0, 0, 0}, {0, 0, 0, 0}, {0, 0, 0, 0}});
         Check.due("the rest keeps its age", x.owes(0, 1, 1), age);
         Check.due("no toll is paid", x.of(0, 5), 0);
         Check.due("no coin comes", x.count(4), 0);
         Check.due("clear(0) again", x.clear(0), 0);
         x.restore(0);
         Check.due("clear(1)", x.clear(1), 4);
-        debtsAre("from the other", x, new int[][] {{0, 6, 0, 0}, {0, 0, 0, 0}, {0, 0, 0, 0}, {0, 0, 0, 0}});
+        Debtors.debtsAre("from the other", x, new int[][] {{0, 6, 0, 0}, {0, 0, 0, 0}, {0, 0, 0, 0}, {0, 0, 0, 0}});
         x.undo();
-        debtsAre("undone", x, new int[][] {{0, 10, 0, 0}, {4, 0, 0, 0}, {0, 0, 0, 0}, {0, 0, 0, 0}});
+        Debtors.debtsAre("undone", x, new int[][] {{0, 10, 0, 0}, {4, 0, 0, 0}, {0, 0, 0, 0}, {0, 0, 0, 0}});
     }
 
     private static void promise6ShortestRingFirst() {
-        DiceRoads x = owing(new int[][] {{0, 10, 0, 6}, {0, 0, 0, 10}, {0, 0, 0, 0}, {8, 0, 0, 0}});
+        DiceRoads x = Debtors.owing(new int[][] {{0, 10, 0, 6}, {0, 0, 0, 10}, {0, 0, 0, 0}, {8, 0, 0, 0}});
         Check.due("clear(0)", x.clear(0), 8);
-        debtsAre("the ring of two first", x, new int[][] {{0, 8, 0, 0}, {0, 0, 0, 8}, {0, 0, 0, 0}, {0, 0, 0, 0}});
+        Debtors.debtsAre("the ring of two first", x, new int[][] {{0, 8, 0, 0}, {0, 0, 0, 8}, {0, 0, 0, 0}, {0, 0, 0, 0}});
     }
 
     private static void promise6LowestRingFirst() {
-        DiceRoads x = owing(new int[][] {{0, 6, 20, 0}, {0, 0, 0, 10}, {0, 0, 0, 20}, {8, 0, 0, 0}});
+        DiceRoads x = Debtors.owing(new int[][] {{0, 6, 20, 0}, {0, 0, 0, 10}, {0, 0, 0, 20}, {8, 0, 0, 0}});
         Check.due("clear(0)", x.clear(0), 8);
-        debtsAre("the ring by 1 first", x, new int[][] {{0, 0, 18, 0}, {0, 0, 0, 4}, {0, 0, 0, 18}, {0, 0, 0, 0}});
+        Debtors.debtsAre("the ring by 1 first", x, new int[][] {{0, 0, 18, 0}, {0, 0, 0, 4}, {0, 0, 0, 18}, {0, 0, 0, 0}});
     }
 
     private static void promise6LowestBehindTheFirstDebt() {
         // from 3: 3, 0, 1 and 3, 0, 2; and from 2 on there is but one ring
         int[][] coins = {{0, 16, 16, 0}, {0, 0, 0, 4}, {0, 0, 0, 30}, {10, 0, 0, 0}};
-        DiceRoads x = owing(coins);
+        DiceRoads x = Debtors.owing(coins);
         x.save(0);
         Check.due("clear(3)", x.clear(3), 10);
-        debtsAre("from 3", x, new int[][] {{0, 12, 10, 0}, {0, 0, 0, 0}, {0, 0, 0, 24}, {0, 0, 0, 0}});
+        Debtors.debtsAre("from 3", x, new int[][] {{0, 12, 10, 0}, {0, 0, 0, 0}, {0, 0, 0, 24}, {0, 0, 0, 0}});
         x.restore(0);
         Check.due("clear(2)", x.clear(2), 10);
-        debtsAre("from 2", x, new int[][] {{0, 16, 6, 0}, {0, 0, 0, 4}, {0, 0, 0, 20}, {0, 0, 0, 0}});
+        Debtors.debtsAre("from 2", x, new int[][] {{0, 16, 6, 0}, {0, 0, 0, 4}, {0, 0, 0, 20}, {0, 0, 0, 0}});
     }
 
     private static void promise6RingOfFour() {
-        DiceRoads x = owing(new int[][] {{0, 0, 12, 0}, {14, 0, 0, 0}, {0, 0, 0, 8}, {0, 10, 0, 0}});
+        DiceRoads x = Debtors.owing(new int[][] {{0, 0, 12, 0}, {14, 0, 0, 0}, {0, 0, 0, 8}, {0, 10, 0, 0}});
         Check.due("clear(3)", x.clear(3), 8);
-        debtsAre("ring of four", x, new int[][] {{0, 0, 4, 0}, {6, 0, 0, 0}, {0, 0, 0, 0}, {0, 2, 0, 0}});
+        Debtors.debtsAre("ring of four", x, new int[][] {{0, 0, 4, 0}, {6, 0, 0, 0}, {0, 0, 0, 0}, {0, 2, 0, 0}});
     }
 
     private static void promise6OnlyRingsOfThePlayer() {
         int[][] coins = {{0, 10, 0, 0}, {0, 0, 12, 0}, {0, 14, 0, 0}, {0, 0, 0, 0}};
-        DiceRoads x = owing(coins);
+        DiceRoads x = Debtors.owing(coins);
         Check.due("clear(0)", x.clear(0), 0);
         Check.due("clear(3)", x.clear(3), 0);
-        debtsAre("a ring of others stays", x, coins);
+        Debtors.debtsAre("a ring of others stays", x, coins);
         Check.due("clear(2)", x.clear(2), 12);
     }
 
@@ -199,7 +136,7 @@ public final class DebtsTest {
     }
 
     private static void promise9Owes() {
-        DiceRoads x = owing(new int[][] {{0, 10, 0, 0}, {0, 0, 6, 0}, {0, 0, 0, 0}, {198, 0, 0, 0}});
+        DiceRoads x = Debtors.owing(new int[][] {{0, 10, 0, 0}, {0, 0, 6, 0}, {0, 0, 0, 0}, {198, 0, 0, 0}});
         int age = x.owes(0, 1, 1);
         Check.due("owes(1, 2, 1)", x.owes(1, 2, 1), age);
         Check.due("owes(1, 0, 1)", x.owes(1, 0, 1), -6);
@@ -220,7 +157,7 @@ public final class DebtsTest {
     }
 
     private static void promise12Chain() {
-        DiceRoads x = owing(new int[][] {{0, 10, 0, 0}, {0, 0, 6, 0}, {0, 0, 0, 4}, {0, 0, 0, 0}});
+        DiceRoads x = Debtors.owing(new int[][] {{0, 10, 0, 0}, {0, 0, 6, 0}, {0, 0, 0, 4}, {0, 0, 0, 0}});
         int[][] due = {{-6, 1, 2, 3}, {-6, -6, 1, 2}, {-6, -6, -6, 1}, {-6, -6, -6, -6}};
         chainsAre(x, due);
         Check.due("chain(4, 0)", x.chain(4, 0), -1);
@@ -232,11 +169,11 @@ public final class DebtsTest {
     }
 
     private static void promise12Around() {
-        chainsAre(owing(new int[][] {{0, 0, 12, 0}, {14, 0, 0, 0}, {0, 0, 0, 8}, {0, 10, 0, 0}}),
+        chainsAre(Debtors.owing(new int[][] {{0, 0, 12, 0}, {14, 0, 0, 0}, {0, 0, 0, 8}, {0, 10, 0, 0}}),
                 new int[][] {{4, 3, 1, 2}, {1, 4, 2, 3}, {3, 2, 4, 1}, {2, 1, 3, 4}});
-        chainsAre(owing(new int[][] {{0, 2, 2, 0}, {0, 0, 2, 0}, {0, 0, 0, 2}, {0, 2, 0, 0}}),
+        chainsAre(Debtors.owing(new int[][] {{0, 2, 2, 0}, {0, 0, 2, 0}, {0, 0, 0, 2}, {0, 2, 0, 0}}),
                 new int[][] {{-6, 1, 1, 2}, {-6, 3, 1, 2}, {-6, 2, 3, 1}, {-6, 1, 2, 3}});
-        chainsAre(owing(new int[][] {{0, 0, 0, 2}, {0, 0, 0, 0}, {0, 0, 0, 0}, {2, 0, 0, 0}}),
+        chainsAre(Debtors.owing(new int[][] {{0, 0, 0, 2}, {0, 0, 0, 0}, {0, 0, 0, 0}, {2, 0, 0, 0}}),
                 new int[][] {{2, -6, -6, 1}, {-6, -6, -6, -6}, {-6, -6, -6, -6}, {1, -6, -6, 2}});
     }
 
