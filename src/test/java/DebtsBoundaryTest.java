@@ -22,6 +22,8 @@ public final class DebtsBoundaryTest {
                 DebtsBoundaryTest::theLowestNumbers);
         Check.sentence("Promise 6", "each debt on it becomes less by the least one on it.",
                 DebtsBoundaryTest::lessByTheLeast);
+        Check.sentence("Promise 6", "each debt on it becomes less: also one of one coin",
+                DebtsBoundaryTest::ringOfOneCoinDebts);
         Check.sentence("Promise 6", "This is a change.", DebtsBoundaryTest::clearIsAChange);
         Check.sentence("Promise 6", "Returns by how many coins the debts of the player become less, together",
                 DebtsBoundaryTest::coinsTogether);
@@ -134,6 +136,24 @@ public final class DebtsBoundaryTest {
         Check.due("has no age", y.owes(1, 0, 1), -6);
         Check.due("no coin is paid", y.count(4), 0);
         Check.due("no toll is paid", y.of(0, 5) + y.of(1, 5), 0);
+    }
+
+    private static void ringOfOneCoinDebts() {
+        DiceRoads x = Table.with(15, 15);
+        x.set(DiceRoads.WAGE, 0);
+        x.set(DiceRoads.DUE, 20);
+        x.set(DiceRoads.TOLL, 1);
+        Table.send(x, 0, 5, 6);
+        Table.send(x, 1, 15, 6);
+        Table.send(x, 1, 5, 0);
+        Check.due("no ring yet: clear(0)", x.clear(0), 0);
+        Table.send(x, 0, 15, 0);
+        Check.due("0 owes 1", x.owes(0, 1, 0), 1);
+        Check.due("1 owes 0", x.owes(1, 0, 0), 1);
+        Check.due("chain(0, 0)", x.chain(0, 0), 2);
+        Check.due("clear(0)", x.clear(0), 1);
+        Check.due("debts", x.count(3), 0);
+        Check.due("no age", x.owes(0, 1, 1), -6);
     }
 
     private static void clearIsAChange() {

@@ -217,6 +217,15 @@ public final class FactsBoundaryTest {
             Check.due("with one", x.count(2), 0);
             x.undo();
             Check.due("without it again", x.count(2), -6);
+            x.save(0);
+            x.player(5);
+            x.player(5);
+            x.go(1);
+            Check.due("the second one", x.count(2), 1);
+            x.restore(0);
+            Check.due("without any by a slot", x.count(2), -6);
+            x.player(5);
+            Check.due("with one who is the first", x.count(2), 0);
         });
         Check.sentence("Promise 10", "3 debts, 5 coins of all debts: up to twelve debts", () -> {
             int[][] coins = {{0, 2, 2, 2}, {2, 0, 2, 2}, {2, 2, 0, 2}, {2, 2, 2, 0}};

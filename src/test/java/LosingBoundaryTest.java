@@ -11,6 +11,9 @@ public final class LosingBoundaryTest {
         Check.sentence("A turn, 4", "Then, the oldest first", LosingBoundaryTest::theOldestFirst);
         Check.sentence("A turn, 4", "of several that of the lowest creditor",
                 LosingBoundaryTest::theLowestCreditorFirst);
+        Check.sentence("A turn, 4", "a debt costs the lowest square: up to three debts in one turn",
+                LosingBoundaryTest::threeAtOnce);
+        Check.sentence("A turn, 4", "a debt costs a square: also one of one coin", LosingBoundaryTest::oneCoin);
         Check.sentence("A turn, 4", "If the creditor owns the other part of a bridge, it is its only owner then, the "
                 + "first one", LosingBoundaryTest::theCreditorOwnsTheOtherPart);
         Check.sentence("A turn, 4", "if a first owner of a bridge loses its part, the creditor is the first one.",
@@ -58,6 +61,22 @@ public final class LosingBoundaryTest {
         Check.due("both", x.owes(2, 0, 1) * 10 + x.owes(2, 1, 1), 32);
         Check.due("none the other way", x.owes(0, 2, 1), -6);
         Check.due("none of others", x.owes(0, 1, 1), -6);
+
+        int[][] all = {{0, 2, 2, 2}, {2, 0, 2, 2}, {2, 2, 0, 2}, {2, 2, 2, 0}};
+        DiceRoads twelve = Debtors.owing(all);
+        int[] ages = new int[16];
+        for (int place = 0; place < 16; place++) {
+            ages[place] = twelve.owes(place / 4, place % 4, 1);
+        }
+        for (int player = 0; player < 4; player++) {
+            Table.rest(twelve);
+            for (int place = 0; place < 16; place++) {
+                if (place / 4 != place % 4) {
+                    Check.due("of twelve, behind the turn of " + player + ": the age of " + place,
+                            twelve.owes(place / 4, place % 4, 1), ages[place] + (place / 4 <= player ? 1 : 0));
+                }
+            }
+        }
     }
 
     private static void olderThanDue() {
@@ -80,7 +99,8 @@ public final class LosingBoundaryTest {
     }
 
     private static void theLowestSquare() {
-        int[][] squares = {{19, 1}, {1, 19}, {16, 12, 11}, {15, 5, 6}, {14, 15}, {18, 15}, {9, 11}};
+        int[][] squares = {{19, 1}, {1, 19}, {16, 12, 11}, {15, 5, 6}, {14, 15}, {18, 15}, {9, 11}, {1}, {19}, {5},
+            {15}};
         for (int[] owned : squares) {
             DiceRoads x = slow(15, 15 * owned.length);
             Table.send(x, 0, 8, 6);
@@ -182,6 +202,50 @@ public final class LosingBoundaryTest {
                 Check.due("the other one gets the next of " + squares, x.ofSquare(12, 1), squares == 2 ? 1 : -6);
                 Check.due("owes the lowest one", x.owes(2, 0, 0), 0);
                 Check.due("owes the other one", x.owes(2, 1, 0), squares == 2 ? 0 : 3);
+            }
+        }
+    }
+
+    private static void threeAtOnce() {
+        for (int squares = 0; squares <= 4; squares++) {
+            DiceRoads x = slow(15, 15, 15, 15 * squares);
+            Table.send(x, 0, 2, 6);
+            Table.send(x, 1, 3, 6);
+            Table.send(x, 2, 6, 6);
+            for (int square = 11; square < 11 + squares; square++) {
+                Table.send(x, 3, square, 6);
+            }
+            Table.send(x, 3, 6, 0);
+            Table.send(x, 3, 2, 0);
+            Table.send(x, 3, 3, 0);
+            Check.due("three debts", x.count(3), 3);
+            falls(x, 3);
+            Check.due("lost of " + squares, x.of(3, 8), Math.min(squares, 3));
+            Check.due("debts behind the loss of " + squares, x.count(3), 3 - Math.min(squares, 3));
+            Check.due("C's debt is the oldest", x.ofSquare(11, 1), squares > 0 ? 2 : -6);
+            Check.due("then A's", x.ofSquare(12, 1), squares > 1 ? 0 : -6);
+            Check.due("then B's", x.ofSquare(13, 1), squares > 2 ? 1 : -6);
+            Check.due("the fourth square stays", x.ofSquare(14, 1), squares > 3 ? 3 : -6);
+        }
+    }
+
+    /** Each player owes each other one 1 coin once, as the only debt there is, for the other one's bridge. */
+    private static void oneCoin() {
+        for (int debtor = 0; debtor < 4; debtor++) {
+            for (int creditor = 0; creditor < 4; creditor++) {
+                if (debtor == creditor) {
+                    continue;
+                }
+                DiceRoads x = slow(15, 15, 15, 15);
+                x.set(DiceRoads.TOLL, 1);
+                Table.send(x, creditor, 5, 6);
+                Table.send(x, debtor, 19, 6);
+                Table.send(x, debtor, 5, 0);
+                Check.due("owed", x.owes(debtor, creditor, 0), 1);
+                falls(x, debtor);
+                Check.due("lost for one coin", x.of(debtor, 8), 1);
+                Check.due("to the creditor", x.ofSquare(19, 1), creditor);
+                Check.due("owed then", x.owes(debtor, creditor, 0), 0);
             }
         }
     }

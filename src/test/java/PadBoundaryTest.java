@@ -23,6 +23,10 @@ public final class PadBoundaryTest {
             faultIs("p1;t1;x1", -6);
             faultIs(";p1", 0);
             faultIs("p1;;t1", 3);
+            faultIs("p;", 1);
+            faultIs("c;", 1);
+            faultIs("p1;t;x1", 4);
+            faultIs("p1;c;x1", 4);
             faultIs("p1t1", 2);
             faultIs("p1,t1", 2);
             faultIs("p1:t1", 2);

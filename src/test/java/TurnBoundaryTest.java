@@ -33,6 +33,8 @@ public final class TurnBoundaryTest {
                 TurnBoundaryTest::asMuchAsThePurseHas);
         Check.sentence("A turn, 1", "the oldest first", TurnBoundaryTest::theOldestFirst);
         Check.sentence("A turn, 1", "of several that of the lowest creditor", TurnBoundaryTest::theLowestCreditorFirst);
+        Check.sentence("A turn, 1", "It pays its debts: those to each of the others, down to the last coin",
+                TurnBoundaryTest::debtsToEach);
         Check.sentence("A turn", "1. comes before 2.: a wage does not pay a debt in the turn that brings it",
                 TurnBoundaryTest::paysBeforeItGoes);
     }
@@ -131,6 +133,37 @@ public final class TurnBoundaryTest {
                 Check.due("of a purse of " + row[0] + ": A's debt", x.owes(2, 0, 0), row[1]);
                 Check.due("of a purse of " + row[0] + ": B's debt of the same age", x.owes(2, 1, 0), row[2]);
             }
+        }
+    }
+
+    private static void debtsToEach() {
+        for (int debtor = 0; debtor < 4; debtor++) {
+            for (int creditor = 0; creditor < 4; creditor++) {
+                if (debtor == creditor) {
+                    continue;
+                }
+                int[][] coins = new int[4][4];
+                coins[debtor][creditor] = 8;
+                DiceRoads x = Debtors.owing(coins);
+                x.set(DiceRoads.WAGE, 7);
+                Table.restAll(x, 3);
+                Check.due("one coin is left", x.owes(debtor, creditor, 0), 1);
+                x.set(DiceRoads.WAGE, 1);
+                Table.restAll(x, 2);
+                Check.due("no coin is left", x.owes(debtor, creditor, 0), 0);
+                Check.due("paid", x.of(debtor, 5), 8);
+                Check.due("got", x.of(creditor, 6), 8);
+            }
+            int[][] all = new int[4][4];
+            for (int creditor = 0; creditor < 4; creditor++) {
+                all[debtor][creditor] = creditor == debtor ? 0 : 2;
+            }
+            DiceRoads x = Debtors.owing(all);
+            x.set(DiceRoads.WAGE, 6);
+            Table.restAll(x, 2);
+            Table.restAll(x, 1);
+            Check.due("three debts are paid at once", x.count(3), 0);
+            Check.due("by " + debtor, x.of(debtor, 5), 6);
         }
     }
 
