@@ -9,6 +9,7 @@ import java.util.ArrayList;
 import java.util.List;
 import java.util.Set;
 import java.util.TreeSet;
+import java.util.regex.Matcher;
 import java.util.regex.Pattern;
 
 /** The face of the class, and those rules of LANGUAGE.md that can be seen from its members or its words. */
@@ -39,6 +40,7 @@ public final class LanguageTest {
             members(each);
         }
         words();
+        lengths();
         Check.end();
     }
 
@@ -106,5 +108,20 @@ public final class LanguageTest {
             Check.that("no " + word, !Pattern.compile(pattern).matcher(code).find());
         }
         Check.that("signs of 1 to 126", source.chars().allMatch(sign -> sign > 0 && sign < 127));
+    }
+    /** The methods of the class start behind 4 spaces, those of the classes inside it behind 8, and end there too. */
+    private static void lengths() throws IOException {
+        List<String> lines = Files.readAllLines(SOURCE);
+        int methods = 0;
+        for (int i = 0; i < lines.size(); i++) {
+            String line = lines.get(i);
+            Matcher start = Pattern.compile("( {4}| {8})\\w[^=;]*\\(.*\\{").matcher(line);
+            if (start.matches() && !line.contains("class ")) {
+                int end = lines.subList(i, lines.size()).indexOf(start.group(1) + "}");
+                Check.that("at most sixty lines: " + line.trim(), end >= 0 && end < 60);
+                methods++;
+            }
+        }
+        Check.that("the methods are found", methods > FACE.size());
     }
 }

@@ -38,9 +38,7 @@ public final class LosingBoundaryTest {
 
     /** Others go from inn to inn until the player is next; then debts that are older than DUE 1 cost it squares. */
     private static void falls(DiceRoads x, int player) {
-        while (x.count(2) != player) {
-            Table.rest(x);
-        }
+        Table.restUntil(x, () -> x.count(2) == player);
         x.set(DiceRoads.DUE, 1);
         Table.rest(x);
     }
@@ -174,9 +172,7 @@ public final class LosingBoundaryTest {
         }
         DiceRoads x = owingTwo(2, true);
         int age = x.owes(2, 0, 1);
-        while (x.count(2) != 2) {
-            Table.rest(x);
-        }
+        Table.restUntil(x, () -> x.count(2) == 2);
         x.set(DiceRoads.DUE, age + 1);
         Table.rest(x);
         Check.due("the one that is not too old yet costs nothing", x.of(2, 8), 1);
@@ -323,9 +319,7 @@ public final class LosingBoundaryTest {
         Check.due("lost", x.of(1, 8), 0);
         Check.due("nobody gets a square", x.of(0, 2), 1 << 3);
         x.set(DiceRoads.WAGE, 27);
-        while (x.of(1, 0) == 0) {
-            Table.rest(x);
-        }
+        Table.restUntil(x, () -> x.of(1, 0) > 0);
         x.set(DiceRoads.DUE, 20);
         x.set(DiceRoads.WAGE, 0);
         Table.restAll(x, 1);

@@ -1,7 +1,12 @@
+import java.util.function.BooleanSupplier;
 import java.util.function.Supplier;
 
 /** Ways of playing on a board by dice that a test chooses, and of reading it. */
 final class Table {
+    /** Far more turns than a test waits for anything. */
+    private static final int PATIENCE = 40;
+    private static final int MOST_SIGNS = 100;
+
     private Table() {
     }
 
@@ -35,12 +40,23 @@ final class Table {
         }
     }
 
+    /** The players go from inn to inn until something is so; a test that waits for ever would not fail. */
+    static void restUntil(DiceRoads x, BooleanSupplier isSo) {
+        for (int i = 0; i < PATIENCE; i++) {
+            if (isSo.getAsBoolean()) {
+                return;
+            }
+            rest(x);
+        }
+        throw new IllegalStateException("what the test waits for does not come: " + all(x));
+    }
+
     /**
      * The player comes to the square, and throws this third die there, or whichever comes if it is 0; before that it
      * and all others go from inn to inn. Returns what go() does.
      */
     static int send(DiceRoads x, int player, int square, int thirdDie) {
-        for (int i = 0; i < 40; i++) {
+        for (int i = 0; i < PATIENCE; i++) {
             int way = (square - x.of(player, 1) + 20) % 20;
             if (x.count(2) == player && way >= 2 && way <= 12) {
                 int die = way / 2;
@@ -118,7 +134,7 @@ final class Table {
     static String text(DiceRoads x) {
         StringBuilder text = new StringBuilder();
         int sign = x.sign(0);
-        for (int place = 1; sign >= 0; place++) {
+        for (int place = 1; sign >= 0 && place <= MOST_SIGNS; place++) {
             text.append((char) sign);
             sign = x.sign(place);
         }

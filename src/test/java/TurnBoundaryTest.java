@@ -81,9 +81,7 @@ public final class TurnBoundaryTest {
         Table.send(x, 2, 7, 0);
         Table.restAll(x, 2);
         x.set(DiceRoads.WAGE, purse);
-        while (x.of(2, 0) < purse) {
-            Table.rest(x);
-        }
+        Table.restUntil(x, () -> x.of(2, 0) >= purse);
         x.set(DiceRoads.WAGE, 0);
         Table.rest(x);
         Table.rest(x);
@@ -115,9 +113,7 @@ public final class TurnBoundaryTest {
         Check.due("B's debt", x.owes(2, 1, 0), 15);
         Table.restAll(x, 1);
         x.set(DiceRoads.WAGE, purse);
-        while (x.of(2, 0) < purse) {
-            Table.rest(x);
-        }
+        Table.restUntil(x, () -> x.of(2, 0) >= purse);
         Table.rest(x);
         Table.rest(x);
         return x;

@@ -440,7 +440,7 @@ public final class TurnsTest {
         Check.due("B is on the bridge", x.of(1, 1), 5);
         Table.turn(x, 1, 1);
         Check.that("B owes A", x.owes(1, 0, 0) > 0);
-        while (x.count(2) != 1) {
+        for (int i = 0; i < 4 && x.count(2) != 1; i++) {
             Table.turn(x, 5, 5, 1);
         }
         Table.turn(x, 1, 2);
